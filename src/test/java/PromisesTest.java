@@ -296,6 +296,19 @@ public final class PromisesTest {
         due("13: in", -7, x.drift());
         dressAllFurrow(x, 0);
         due("13: in along at all turns", -7 * 24, x.drift());
+        // one crossing a ring, at turn r or -r, in sector r times a step
+        driftIs(x, 8, 0, 7);
+        driftIs(x, -8, 16, 7);
+        driftIs(x, 16, -8, 0);
+        driftIs(x, -16, 24, 0);
+        driftIs(x, 8, -16, -7);
+        driftIs(x, -8, 0, -7);
+    }
+
+    private void driftIs(StoneFurrows x, int leadOfBed, int leadOfRunner, int want) {
+        x.dress(0, 1, 1, 1, leadOfBed);
+        x.dress(1, 1, 1, 1, leadOfRunner);
+        due("13: leads " + leadOfBed + " and " + leadOfRunner, want, x.drift());
     }
 
     private void promise14Gap() {
@@ -342,6 +355,9 @@ public final class PromisesTest {
             int slope = slopes[(11 - 5 - t + 48) % 24];
             due("16: bent, rim, " + t, 30 + Math.floorDiv(slope, 5), x.gapAt(7, 11, t));
         }
+        for (int size = 1; size <= 20; size++) {
+            gapsOfSize(size, slopes);
+        }
         x.gap(1);
         due("16: 1 at least", 1, x.gapAt(7, 17, 0));
         x.hang(1, 1, 0);
@@ -354,6 +370,16 @@ public final class PromisesTest {
         due("16: a", UNKNOWN, x.gapAt(0, 24, 0));
         due("16: t", UNKNOWN, x.gapAt(0, 0, 24));
         due("16: t", UNKNOWN, x.gapAt(0, 0, LEAST));
+    }
+
+    private void gapsOfSize(int size, int[] slopes) {
+        StoneFurrows x = new StoneFurrows();
+        x.gap(40);
+        x.hang(1, size, 0);
+        for (int i = 0; i < 8 * 24; i++) {
+            int more = Math.floorDiv(size * slopes[i % 24] * (i / 24 + 1), 800);
+            due("16: SIZE " + size + ", spot " + i, 40 + more, x.gapAt(i / 24, i % 24, 0));
+        }
     }
 
     private void promise17Gaps() {
@@ -506,6 +532,10 @@ public final class PromisesTest {
         due("20: nothing is left", 0, x.mill(2));
         due("20: furrows stay", 40, x.spot(1, 0, 0, 1));
         crackAtOne();
+        oneIsHighest(0, 1);
+        oneIsHighest(0, 23);
+        oneIsHighest(7, 0);
+        oneIsHighest(7, 23);
         ringsWithoutGround();
         long before = x.digest();
         due("20: n 0", OUTSIDE, x.mill(0));
@@ -528,6 +558,19 @@ public final class PromisesTest {
         x.crack(1, 2, 2, true);
         due("20: a crack at 1 loses 1", 2 * 184, x.mill(1));
         due("20: 0", 0, x.spot(1, 2, 2, 1));
+    }
+
+    // all others are cracked, so that at the second bushel one spot of the bed stands above them
+    private void oneIsHighest(int r, int a) {
+        StoneFurrows x = new StoneFurrows();
+        x.dress(0, 1, 1, 1, 8);
+        for (int i = 0; i < 8 * 24; i++) {
+            x.crack(0, i / 24, i % 24, i != r * 24 + a);
+        }
+        due("20: one alone is not cracked", 184 + 2 * 183 + 1, x.mill(1));
+        due("20: one alone is highest", 184 + 1, x.mill(1));
+        due("20: it is as the others", 58, x.spot(0, r, a, 1));
+        due("20: and these wear two again", 184 + 2 * 183 + 1, x.mill(1));
     }
 
     // where the other stone is furrow all round, nothing is ground, how high it ever is
